@@ -33,6 +33,7 @@ public final class LanguageTest {
         face();
         inside();
         words();
+        room();
         DUE.end();
     }
 
@@ -108,5 +109,41 @@ public final class LanguageTest {
             longest = line.matches(" {4}( {4})?\\}") ? Math.max(longest, since) : longest;
         }
         DUE.is("methods stay short", longest <= 60 ? 1 : 0, 1);
+    }
+
+    /** All calls of a run share one room: after the object and its IMAGE are made, calls make nothing more. */
+    private static void room() {
+        com.sun.management.ThreadMXBean bean =
+            (com.sun.management.ThreadMXBean) java.lang.management.ManagementFactory.getThreadMXBean();
+        long me = Thread.currentThread().getId();
+        dearCalls();
+        long before = bean.getThreadAllocatedBytes(me);
+        dearCalls();
+        long made = bean.getThreadAllocatedBytes(me) - before;
+        DUE.is("a run of " + made + " bytes is small", made < 60000 ? 1 : 0, 1);
+    }
+
+    private static void dearCalls() {
+        TwiceNoise x = new TwiceNoise();
+        for (int p = 0; p < 12; p++) {
+            x.paper(p, 255, 1);
+        }
+        x.feed(0x6D2B782A29782D31L, 8);
+        x.text(0);
+        for (int c = 0; c < 24; c++) {
+            x.measure(c % 12 * 10, 24);
+        }
+        for (int k = 0; k < 40; k++) {
+            x.hands(5);
+            x.pairs(5);
+            x.image();
+            x.restore();
+            x.tell(-1);
+            x.check(5);
+            x.knows(k % 8, 0, 1);
+            x.rules(1, 1, 0);
+            x.voice(k % 24, k % 4, k);
+            x.unsigned();
+        }
     }
 }

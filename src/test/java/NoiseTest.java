@@ -293,6 +293,14 @@ public final class NoiseTest {
         y.make(100, 0, 11, 3, 3); // by NAME 2
         y.make(200, 0, 11, 3, 3); // by NAME 0 (of 1), 1 (of 0) or 2
         DUE.is("26: the fewest, not the least bits", y.hands(1), 0b100);
+        TwiceNoise z = new TwiceNoise();
+        z.paper(1, 255, 1);
+        Due.curve(z, 0, 0, 0, 1, 5);
+        for (int name = 0; name < 8; name++) {
+            z.paper(2, 1 << name, 1);
+            z.make(100 * (name + 1), 0, 11, name, 3);
+        }
+        DUE.is("26: all", z.hands(1), 255);
     }
 
     private static void saw() {
