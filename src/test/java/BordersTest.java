@@ -11,6 +11,7 @@ public final class BordersTest {
         namesOfUses();
         factors();
         factorsWithoutDivisor();
+        order();
         firstPoint();
         allAlike();
         wholeRow();
@@ -110,10 +111,18 @@ public final class BordersTest {
         reads("Term 2: S ? S : S, no second ?", 0, "1?2?3:4:5", -13);
         reads("Term 2: S ? S : S, no third :", 0, "1?2:3:4", -15);
         reads("Term 2: S ? S : S, no : alone", 0, "1:2", -11);
+        reads("Term 2: S ? S : S, each with & |", 0, "1&0|1?2&3|4:5|6&7", 7);
+        TwiceNoise x = new TwiceNoise();
+        Due.text(x, 0, "x|0?m|0:m&0");
+        EDGE.is("Term 2: the second", x.law(0, 1, 5, 0), 1);
+        EDGE.is("Term 2: the third", x.law(0, 0, 5, 0), 0);
         reads("Term 2: a T in ( )", 0, "(1?2:3)?(1?2:3):(1?2:3)", 4);
         reads("Term 2: no ) alone", 0, "1)", -11);
         reads("Term 2: no ) ahead of :", 0, "(1?2)", -14);
         reads("Term 2: no : in ( ) for a ? ahead of it", 0, "1?(2:3)", -14);
+        reads("Term 2: a byte 0 is a byte", 0, "1\0", -11);
+        reads("Term 2: a byte 0 is a byte", 0, "\0", -10);
+        reads("Term 2: a byte 255 is a byte", 0, "1\u00ff", -11);
         reads("Term 2: no blanks", 0, " 1", -10);
         reads("Term 2: no blanks", 0, "1 +1", -11);
         reads("Term 2: no blanks", 0, "1 ", -11);
@@ -154,6 +163,7 @@ public final class BordersTest {
                     for (int f = 1; f <= 5; f++) {
                         String call = "Term 3: a greatest FACTOR " + f + ": " + up + " by " + down;
                         EDGE.is(call, x.bent(0, 1, f, 0), least <= f ? 1 : 0);
+                        EDGE.is(call + ", TURNED", x.bent(0, 1, f, 2), least > f ? Due.NONE : turned < 0 ? 1 : 0);
                         EDGE.is(call, x.pairs(f), least <= f ? 2 : 0);
                         EDGE.is(call, x.could(1, f), least <= f ? 1 : 0);
                         EDGE.is(call, x.sources(f), least <= f ? 1 : 3);
@@ -178,6 +188,23 @@ public final class BordersTest {
                 EDGE.is("Term 3: no divisor of both but 1: down", x.bent(0, 1, 5, 4), down / both);
             }
         }
+    }
+
+    private static void first(String sentence, int[] a, int[] b, int... due) {
+        TwiceNoise x = pair(a, b);
+        for (int what = 0; what < due.length; what++) {
+            EDGE.is("Term 3: BENDINGS are ordered by " + sentence + ", " + what, x.bent(0, 1, 5, what), due[what]);
+        }
+    }
+
+    /** Two BENDINGS, told apart by one thing, while all that counts less stands the other way round. */
+    private static void order() {
+        // Back from POINT 2 they go 0, 1, 3; from POINT 3 on they go 0, -1, -3.
+        first("BACK", new int[] {3, 1, 0, 10, 9, 7, 40}, new int[] {0, 5, 15}, 2, 0, 1, 5, 1, 3);
+        first("TURNED", new int[] {0, -1, -3, 9, 0, 5, 15}, new int[] {0, 1, 3}, 2, 0, 0, 1, 5, 4);
+        first("up", new int[] {0, 1, 3, 9, 0, 10, 30}, new int[] {0, 2, 6}, 2, 0, 0, 1, 5, 4);
+        first("down", new int[] {0, 5, 15, 99, 0, 3, 9}, new int[] {0, 1, 3}, 2, 0, 0, 1, 3, 4);
+        first("i", new int[] {0, 1, 3, 90, 0, 1, 3}, new int[] {0, 1, 3}, 2, 0, 0, 1, 1, 0);
     }
 
     /** b fits from each POINT of a on, as long as a has as many; BACK likewise. */
@@ -243,6 +270,10 @@ public final class BordersTest {
         EDGE.is("16: one HAIR, the last of b", y.same(0, 1, 0), 1);
         EDGE.is("16: one HAIR, the last of b", y.same(0, 1, 2), 3);
         EDGE.is("16: one HAIR, the last of a", y.same(1, 0, 1), 3);
+        // Behind its last POINT a CURVE has no HAIR, not even one of POINTS that are 0.
+        TwiceNoise v = pair(new int[] {0, 0, 1}, new int[] {0, 0, 1, 0, 0, 0});
+        EDGE.is("16: a row ends with its CURVE", v.same(0, 1, 0), 1);
+        EDGE.is("16: a row ends with its CURVE", v.same(1, 0, 0), 1);
         TwiceNoise z = pair(new int[] {0, 0, 1}, new int[] {0, 0, 2});
         for (int what = 0; what < 3; what++) {
             EDGE.is("16: 0 HAIRS: 0, 0, 0", z.same(0, 1, what), 0);
@@ -314,6 +345,39 @@ public final class BordersTest {
         x.paper(2, 0b01100000, 1);
         Due.curve(x, 0, 30, 0, 3, 15);
         EDGE.is("Term 3: of three pairs the least bits", x.hands(3), 0b01100000);
+        handsOfAll();
+    }
+
+    private static void handsOfAll() {
+        TwiceNoise x = new TwiceNoise();
+        x.paper(1, 255, 1);
+        Due.curve(x, 0, 0, 0, 1, 5);
+        int due = 0;
+        for (int name = 0; name < 8; name++) {
+            x.paper(2, 1 << name, 1);
+            x.make(100 * (name + 1), 0, 11, name, 3);
+            due |= 1 << name;
+            EDGE.is("Term 3: HANDS, one more NAME is needed", x.hands(1), due);
+        }
+        TwiceNoise y = new TwiceNoise();
+        y.paper(5, 0b0011, 1);
+        y.paper(4, 0b0010, 1);
+        y.paper(3, 0b0001, 1);
+        Due.curve(y, 0, 0, 0, 1, 5);
+        Due.curve(y, 0, 10, 0, 1, 5);
+        Due.curve(y, 0, 20, 7, 7, 1);
+        EDGE.is("Term 3: of a PAPER of one of which it COULD come, not of another", y.hands(1), 0b0010);
+        EDGE.is("Term 3: CURVE 0 is no SOURCE, if its DAY is later", y.sources(1), 0b110);
+        TwiceNoise z = new TwiceNoise();
+        z.paper(1, 0b01, 1);
+        z.paper(1, 0b10, 1);
+        z.paper(2, 0b11, 1);
+        Due.curve(z, 0, 0, 0, 1, 5);
+        Due.curve(z, 0, 10, 0, 2, 10);
+        Due.curve(z, 0, 20, 0, 2, 10);
+        EDGE.is("Term 3: HANDS by 1", z.hands(1), 0b10);
+        EDGE.is("Term 3: HANDS by 2", z.hands(2), 0b01);
+        EDGE.is("Term 3: HANDS by 1, asked again", z.hands(1), 0b10);
     }
 
     /** A SIGN is a HAIR above BOUND, or below it turned over: not one at it. */
@@ -350,6 +414,9 @@ public final class BordersTest {
         x.machine(1, 2, 9999);
         Due.curve(x, 0, 0, 0, 0, 1);
         EDGE.is("Term 4: BOUND of its own MACHINE", x.sign(0), 1);
+        Due.curve(x, 0, 0, 5, 5, 5);
+        Due.curve(x, 0, 0, -9, -8, -7, -6);
+        EDGE.is("Term 4: POINT 0 and the last have no HAIR", x.unsigned(), 0b110);
     }
 
     private static void within() {

@@ -19,6 +19,7 @@ public final class EmptyTest {
         noTrace();
         missingSheet();
         sheetOfNoNumbers();
+        sheetAnew();
         noBits();
         noText();
         EDGE.end();
@@ -158,6 +159,16 @@ public final class EmptyTest {
         };
         EDGE.is("42: an IMAGE of a new object", Seen.of(restored).equals(Seen.of(Edge.then(NEW, TwiceNoise::image))) ? 1 : 0, 1);
         EDGE.is("42: the next PAPER is 0 again", restored.get().paper(1, 1, 1), 0);
+        TwiceNoise x = new TwiceNoise();
+        x.paper(1, 1, 1);
+        x.image();
+        x.paper(1, 1, 1);
+        x.rests(1, 0);
+        x.needs(1, 5);
+        x.restore();
+        x.paper(1, 1, 1);
+        EDGE.is("Term 5: NEED 0 at first, where a PAPER was before", x.paperIs(1, 3), 0);
+        EDGE.is("5: RESTS on none, where a PAPER was before", x.paperIs(1, 4), 0);
     }
 
     private static void noTrace() {
@@ -196,6 +207,31 @@ public final class EmptyTest {
         EDGE.is("40: no numbers of none: 0", none.get().move(0, 0, 1, 24, 0), 0);
         EDGE.is("40: no numbers to none: 0", none.get().move(1, 24, 0, 0, 0), 0);
         EDGE.is("40: no numbers, of itself: 0", none.get().move(0, 0, 0, 0, 0), 0);
+    }
+
+    /** A SHEET has n numbers, all 0, whatever it was before. */
+    private static void sheetAnew() {
+        for (int bits : new int[] {8, 16, 32}) {
+            for (int n : new int[] {3, 23, 24}) {
+                for (int before = 0; before < 3; before++) {
+                    TwiceNoise x = Edge.sheeted();
+                    for (int i = 0; i < 24; i++) {
+                        x.put(1, i, 77);
+                    }
+                    if (before == 1) {
+                        x.sheet(1, 0, 0);
+                    } else if (before == 2) {
+                        x.sheet(1, 8, 0);
+                    }
+                    EDGE.is("38: 1", x.sheet(1, bits, n), 1);
+                    x.curve(0, 0, 1, 0, n);
+                    for (int j = 0; j < n; j++) {
+                        EDGE.is("38: n numbers, all 0: number " + j, x.point(0, j), 0);
+                    }
+                    EDGE.is("38: no more than n", x.put(1, n, 1), Due.BEYOND);
+                }
+            }
+        }
     }
 
     private static void noBits() {

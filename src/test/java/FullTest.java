@@ -19,6 +19,7 @@ public final class FullTest {
         sheet();
         room();
         greatest();
+        calls();
         EDGE.end();
     }
 
@@ -309,5 +310,24 @@ public final class FullTest {
         z.tries(0, 0, 999, false);
         EDGE.is("33: the DAY may be above 999", z.knows(7, 0, 1), 999 + 7 * 60);
         EDGE.is("33: one LINK", z.knows(1, 0, 1), 1059);
+    }
+
+    /** An object is used for at most 512 calls: the 512th is answered as the first is. */
+    private static void calls() {
+        TwiceNoise x = new TwiceNoise();
+        for (int k = 1; k <= 512; k++) {
+            EDGE.is("41: how often that was done", x.image(), k);
+        }
+        TwiceNoise y = new TwiceNoise();
+        for (int k = 1; k < 512; k++) {
+            EDGE.is("46: each BEYOND", y.told(7), Due.BEYOND);
+        }
+        EDGE.is("46: the 512th call", y.told(1), 511);
+        TwiceNoise z = Edge.full();
+        int made = 12 + 1 + 25 + 24 + 20 + 30 + 8 + 7 + 24;
+        for (int k = made; k < 511; k++) {
+            z.hands(5);
+        }
+        EDGE.is("18: the 512th call", z.pairs(5), Edge.full().pairs(5));
     }
 }

@@ -15,6 +15,7 @@ public final class ModelTest {
     private final TwiceNoise real = new TwiceNoise();
     private final Model model = new Model();
     private final boolean wild;
+    private int calls = 0;
     private final String[] favourites;
     private static final TreeMap<String, Method> REAL = new TreeMap<>();
     private static final TreeMap<String, Method> MODEL = new TreeMap<>();
@@ -53,8 +54,9 @@ public final class ModelTest {
 
     private String run() throws Exception {
         List<String> latest = new ArrayList<>();
-        for (int k = 0; k < CALLS; k++) {
+        for (int k = 0; calls < CALLS; k++) {
             String name = name(k);
+            calls++;
             Object[] args = drawArguments(name);
             String call = name + java.util.Arrays.toString(args);
             latest.add(call);
@@ -236,13 +238,15 @@ public final class ModelTest {
 
     /** Now and then the right numbers wait, as far as they go. */
     private void queueNumbers() {
-        if (random.nextBoolean()) {
+        int many = model.all.curves.size();
+        if (random.nextBoolean() || calls + many + 1 > CALLS) {
             return;
         }
+        calls += many + 1;
         model.all.waiting.clear();
         real.check(1);
         int f = 1 + random.nextInt(5);
-        for (int c = 0; c < model.all.curves.size(); c++) {
+        for (int c = 0; c < many; c++) {
             List<Integer> of = model.origins(c, f);
             int v = random.nextInt(30) == 0 ? random.nextInt(3) : of.isEmpty() ? -1 : of.get(0);
             if (model.tell(v) != real.tell(v)) {

@@ -10,7 +10,9 @@ public final class RangesTest {
         paper();
         curve();
         measure();
+        places();
         make();
+        makeOf();
         aboutCurves();
         texts();
         sameNoise();
@@ -120,6 +122,30 @@ public final class RangesTest {
         EDGE.is("7: 3 POINTS", x.curveIs(5, 3), 3);
     }
 
+    /** Each place that there can be: 12 PAPERS, 4 MACHINES. */
+    private static void places() {
+        for (int way = 0; way < 2; way++) {
+            for (int half = 0; half < 2; half++) {
+                TwiceNoise x = Edge.sheeted();
+                for (int p = 1; p < 12; p++) {
+                    x.paper(p, 1, 1);
+                }
+                for (int c = 0; c < 24; c++) {
+                    int p = 6 * half + c / 4;
+                    int place = 10 * p + c % 4;
+                    EDGE.is("6, 7: a CURVE at place " + place, way == 0 ? x.curve(0, place, 0, 0, 3) : x.measure(place, 3), c);
+                    EDGE.is("9: its KIND", x.curveIs(c, 0), way);
+                    EDGE.is("9: its PAPER", x.curveIs(c, 1), p);
+                    EDGE.is("9: its MACHINE", x.curveIs(c, 2), c % 4);
+                    EDGE.is("9: -1: none told", x.curveIs(c, 4), -1);
+                }
+                for (int p = 0; p < 12; p++) {
+                    EDGE.is("5: how many CURVES it has", x.paperIs(p, 5), p / 6 == half ? 4 : 0);
+                }
+            }
+        }
+    }
+
     private static void make() {
         Supplier<TwiceNoise> sizes = Edge::sizes;
         EDGE.only("8: of: the CURVE", RICH, "0 1 2 3 100 101 102 103", (x, v) -> x.make(v, 0, 11, 0, 3));
@@ -143,6 +169,41 @@ public final class RangesTest {
         span("8: i, 3 POINTS of 6 from it on", 2, 0, 3, 0, 3);
         span("8: i, 3 POINTS of 6 from it down", 2, 3, 3, 2, 5);
         EDGE.refuses("8: 25 POINTS from POINT 23 down", sizes, Due.BEYOND, x -> x.make(1, 1, 11, 0, 2325));
+    }
+
+    /** Out of each CURVE from 0 to 22, for each PAPER from 0 to 11; and from each POINT of 24 on or down. */
+    private static void makeOf() {
+        TwiceNoise x = Edge.sheeted();
+        for (int p = 1; p < 12; p++) {
+            x.paper(p, 1, 1);
+        }
+        for (int j = 0; j < 24; j++) {
+            x.put(0, j, 1000 + j);
+        }
+        x.curve(0, 2, 0, 0, 24);
+        for (int c = 1; c < 24; c++) {
+            int p = (c * 7 + 6) % 12;
+            EDGE.is("8: of: 100 times the PAPER, and the CURVE", x.make(100 * p + c - 1, 0, 11, 1, 3), c);
+            EDGE.is("8: its KIND is BENT", x.curveIs(c, 0), 3);
+            EDGE.is("8: the PAPER", x.curveIs(c, 1), p);
+            EDGE.is("8: the MACHINE of that", x.curveIs(c, 2), 2);
+            EDGE.is("8: the CURVE of which it was made", x.curveIs(c, 4), c - 1);
+            EDGE.is("8: its POINTS", x.point(c, 2), 1002 + c);
+        }
+        for (int i = 0; i < 24; i++) {
+            TwiceNoise y = Edge.sheeted();
+            for (int j = 0; j < 24; j++) {
+                y.put(0, j, 1000 + j);
+            }
+            y.curve(0, 0, 0, 0, 24);
+            int by = i < 12 ? 0 : 1;
+            for (int n = 3; n <= 12; n++) {
+                int c = y.make(0, by, 11, 0, 100 * i + n);
+                EDGE.is("8: span: n POINTS", y.curveIs(c, 3), n);
+                EDGE.is("8: span: from POINT i", y.point(c, 0), 1000 + i);
+                EDGE.is("8: span: to the last", y.point(c, n - 1), by == 0 ? 1000 + i + n - 1 : 1000 + i - n + 1);
+            }
+        }
     }
 
     private static void span(String sentence, int curve, int by, int n, int least, int most) {

@@ -73,7 +73,7 @@ public final class TextsTest {
             for (char c = 0; c < 256; c++) {
                 boolean good = names[use].indexOf(c) >= 0 || c >= '0' && c <= '9';
                 boolean begins = c == '-' || c == '(';
-                DUE.is("14: byte " + (int) c + " for " + use, Due.text(x, use, "" + c), good ? 0 : begins ? -11 : -10);
+                DUE.is("14: byte " + (int) c + " for " + use, Due.text(new TwiceNoise(), use, "" + c), good ? 0 : begins ? -11 : -10);
             }
         }
         DUE.is("14: use", x.text(3), Due.BEYOND);

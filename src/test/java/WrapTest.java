@@ -183,25 +183,32 @@ public final class WrapTest {
         for (int v : new int[] {LEAST, LEAST + 1, LEAST + 5, -1000010, -9, -1, 0, MOST / 2, 1 << 30, MOST - 9, MOST - 8, MOST}) {
             BigInteger shows = big(v).add(big(9));
             BigInteger bars = shows.multiply(two);
-            speaks(x, 0, 0, v, shows);
-            speaks(x, 0, 1, v, bars);
+            for (int kind : new int[] {0, 1, 4, 6, 7}) {
+                speaks(x, kind, 0, v, shows);
+                speaks(x, kind, 1, v, kind == 1 || kind == 6 ? bars.add(big(3)) : bars);
+            }
+            for (int kind : new int[] {0, 1, 2, 4, 6}) {
+                speaks(x, kind, 3, v, big(v / (9 - kind)));
+            }
             speaks(x, 0, 2, v, bars);
-            speaks(x, 1, 1, v, bars.add(big(3)));
             speaks(x, 1, 2, v, big(wrapped(bars.add(two)) ^ 9));
             speaks(x, 3, 0, v, shows.negate());
             speaks(x, 3, 1, v, bars.negate());
             speaks(x, 3, 2, v, bars.negate().subtract(big(3)));
+            speaks(x, 3, 3, v, big(v / 6).subtract(big(23)));
             speaks(x, 4, 2, v, bars.subtract(big(4)).multiply(big(3)));
             speaks(x, 5, 0, v, shows.add(big(5)).negate());
             speaks(x, 5, 1, v, shows.add(big(5)).multiply(two).negate());
             speaks(x, 5, 2, v, shows.add(big(5)).multiply(two).negate().subtract(big(5)).add(big(16)));
+            speaks(x, 5, 3, v, big(v / 4).add(big(-30 - 5 + 16)));
             speaks(x, 6, 2, v, big(wrapped(bars.add(big(3 - 6))) ^ 9).add(big((6 + 9) * 2 + 3)));
             speaks(x, 7, 2, v, bars.subtract(big(7)).multiply(big(3)));
             speaks(x, 7, 3, v, bars.subtract(big(7)).multiply(big(3)).subtract(big(v / 2)));
-            speaks(x, 3, 3, v, big(v / 6).subtract(big(23)));
             // SMOOTHED halves what has wrapped before.
+            BigInteger smoothBars = big(wrapped(big(v - 1L).add(big(9))) / 2).multiply(two).add(big(3));
             speaks(x, 2, 0, v, big(wrapped(shows) / 2));
-            speaks(x, 2, 1, v, big(wrapped(big(v - 1L).add(big(9))) / 2).multiply(two).add(big(3)));
+            speaks(x, 2, 1, v, smoothBars);
+            speaks(x, 2, 2, v, big(wrapped(smoothBars.subtract(two)) ^ 9));
         }
         EDGE.is("36: as low as an ERROR is no ERROR", Edge.told(x).stream().mapToInt(k -> k).sum(), 0);
     }
