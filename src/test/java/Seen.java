@@ -3,8 +3,8 @@ import java.util.List;
 import java.util.function.Supplier;
 
 /**
- * All that can be seen of an object, but for what told() tells. Each part asks an object of its own: asking changes
- * some of what is asked, and 512 calls are the most.
+ * What can be seen of an object, but for what told() tells; TEXTS, knows() and rules() by samples. Each part asks an
+ * object of its own: asking changes some of what is asked, and 512 calls are the most.
  */
 final class Seen {
     private final TwiceNoise x;
