@@ -13,6 +13,7 @@ public final class BordersTest {
         factorsWithoutDivisor();
         order();
         firstPoint();
+        noPointBeyond();
         allAlike();
         wholeRow();
         sameRows();
@@ -28,6 +29,7 @@ public final class BordersTest {
         trialDays();
         leastRules();
         checkLeast();
+        checkEachLeast();
         checkLength();
         EDGE.end();
     }
@@ -228,6 +230,21 @@ public final class BordersTest {
         EDGE.is(sentence + ": " + i, x.bent(0, 1, 1, 0), fits ? 1 : 0);
         EDGE.is(sentence + ": BACK", x.bent(0, 1, 1, 1), fits ? back : Due.NONE);
         EDGE.is(sentence + ": i", x.bent(0, 1, 1, 5), fits ? i : Due.NONE);
+    }
+
+    /** These b would fit, if a POINT that is 0 stood ahead of a's first one or behind its last one. */
+    private static void noPointBeyond() {
+        int[][] rows = {{1, 2, 4}, {4, 2, 1}, {1, 2, 4, 8}, {8, 4, 2, 1}};
+        int[][] fitting = {{0, 1, 2}, {2, 1, 0}, {0, 1, 2, 4}, {4, 2, 1, 0}};
+        for (int[] a : rows) {
+            for (int[] b : fitting) {
+                TwiceNoise x = pair(a, b);
+                EDGE.is("Term 3: a FIRST POINT i of a: how many", x.bent(0, 1, 5, 0), 0);
+                EDGE.is("Term 3: a FIRST POINT i of a: which", x.bent(0, 1, 5, 5), Due.NONE);
+                EDGE.is("24: nor COULD b come of a", x.could(1, 5), 0);
+                EDGE.is("18: nor is a to b a pair", x.pairs(5), pair(b, a).bent(0, 1, 5, 0) > 0 ? 1 : 0);
+            }
+        }
     }
 
     private static void allAlike() {
@@ -570,6 +587,9 @@ public final class BordersTest {
         EDGE.is("35: others don't count", ruled(5, 0b111000).get().rules(0b001111, 2, 0), Due.NONE);
         EDGE.is("35: the least cost, though of more RULES", ruled(5, 0b11, 2, 0b01, 2, 0b10).get().rules(0b11, 2, 1), 0b110);
         EDGE.is("35: of alike cost the fewest", ruled(2, 0b01, 2, 0b10, 4, 0b11).get().rules(0b11, 2, 1), 0b100);
+        EDGE.is("35: of alike cost the fewest, though of greater bits", ruled(1, 0b01, 1, 0b10, 2, 0b11).get().rules(0b11, 2, 1), 0b100);
+        EDGE.is("35: of alike cost the fewest, met ahead", ruled(4, 0b11, 2, 0b01, 2, 0b10).get().rules(0b11, 2, 1), 0b001);
+        EDGE.is("35: of alike cost two, not three", ruled(2, 0b011, 2, 0b100, 1, 0b001, 1, 0b010).get().rules(0b111, 3, 1), 0b0011);
         EDGE.is("35: then the least bits", ruled(3, 0b11, 3, 0b11, 3, 0b11).get().rules(0b11, 2, 1), 0b001);
         EDGE.is("35: then the least bits", ruled(1, 0b01, 1, 0b10, 1, 0b01, 1, 0b10).get().rules(0b11, 2, 1), 0b0011);
         EDGE.is("35: a CURVE shown twice counts once", ruled(1, 0b01, 1, 0b01).get().rules(0b11, 2, 0), Due.NONE);
@@ -590,6 +610,26 @@ public final class BordersTest {
                 x.tell(v);
             }
             EDGE.is("44: the CURVE of the least number of which each COULD come", x.check(1), due[k]);
+        }
+    }
+
+    /** The last CURVE comes of one other alone, each in its turn. */
+    private static void checkEachLeast() {
+        for (int k = 0; k < 23; k++) {
+            TwiceNoise x = new TwiceNoise();
+            x.paper(5, 1, 1);
+            for (int c = 0; c < 23; c++) {
+                Due.curve(x, 0, 0, 0, 7, 100 + c);
+            }
+            Due.curve(x, 0, 0, 50, 57, 150 + k);
+            EDGE.is("24: it COULD come of " + k + " alone", x.could(23, 1), 1 << k);
+            for (int told : new int[] {k, k + 1, -1}) {
+                for (int c = 0; c < 23; c++) {
+                    x.tell(-1);
+                }
+                x.tell(told);
+                EDGE.is("44: the CURVE of the least number is " + k + ", not another one", x.check(1), told == k ? 0 : 24);
+            }
         }
     }
 

@@ -4,6 +4,7 @@ public final class PapersTest {
 
     public static void main(String[] args) {
         rests();
+        restsOnEach();
         needs();
         fall();
         link();
@@ -37,6 +38,17 @@ public final class PapersTest {
         DUE.is("28: on", x.rests(3, -1), Due.BEYOND);
         DUE.is("28: nothing was changed", x.paperIs(3, 4), 0);
         DUE.is("28: told", x.told(3), 2);
+    }
+
+    private static void restsOnEach() {
+        TwiceNoise x = withPapers(12);
+        for (int paper = 0; paper < 12; paper++) {
+            for (int on = 0; on < paper; on++) {
+                DUE.is("28: " + paper + " on " + on + ", new", x.rests(paper, on), 1);
+                DUE.is("28: " + paper + " on " + on + ", not new", x.rests(paper, on), 0);
+            }
+            DUE.is("28: on all of a lesser number", x.paperIs(paper, 4), (1 << paper) - 1);
+        }
     }
 
     private static void needs() {
